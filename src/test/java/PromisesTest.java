@@ -540,6 +540,25 @@ public final class PromisesTest {
         garden.turn(0, false);
         same("regretOf(0) at exam 0", garden.regretOf(0), 4 * 5 + 9 * 5);
         refusesNoStudents("regretOf", ExamGarden::regretOf);
+        same("regretOf(0) without the forks gone back from", wentBack().regretOf(0), 2 * 10);
+    }
+
+    /** Student 0 passed 3 and 2 first, but went back to 3 and passed it alone on the way to exam 0. */
+    private static ExamGarden wentBack() {
+        ExamGarden garden = new ExamGarden();
+        garden.addExam(0, 20);
+        garden.addExam(0, 20);
+        garden.addFork(0, 1, 3);
+        garden.addFork(2, 0, 2);
+        garden.enroll(3);
+        garden.turn(0, false);
+        garden.turn(0, false);
+        garden.goBack(0);
+        garden.goBack(0);
+        garden.turn(0, true);
+        garden.grade(0, 5);
+        garden.grade(1, 15);
+        return garden;
     }
 
     private static void promise33WorstFork() {
@@ -565,6 +584,21 @@ public final class PromisesTest {
         garden.enroll(7);
         same("worstFork(3) without forks passed", garden.worstFork(3), -1);
         refusesNoStudents("worstFork", ExamGarden::worstFork);
+        same("worstFork(0) without the forks gone back from", wentBack().worstFork(0), 3);
+        worstForkOfOne();
+    }
+
+    private static void worstForkOfOne() {
+        ExamGarden garden = new ExamGarden();
+        garden.addExam(4, 5);
+        garden.addExam(4, 5);
+        garden.addFork(0, 1, 1);
+        garden.enroll(2);
+        garden.turn(0, false);
+        garden.grade(0, 4);
+        garden.grade(1, 5);
+        same("regretOf(0) of 1", garden.regretOf(0), 1);
+        same("worstFork(0) with a regret of 1", garden.worstFork(0), 2);
     }
 
     private static void promise34AllRegret() {
