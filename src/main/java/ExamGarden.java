@@ -23,7 +23,7 @@ public final class ExamGarden {
     /** Bit p tells whether place p is an exam. */
     private long examBits;
 
-    // A number for each place; those of exams alone are not used at forks, and the other way round.
+    // A number for each place: the lowest and highest grades of exams, the paths and weights of forks.
     private final int[] lowestGrades;
     private final int[] highestGrades;
     private final int[] lefts;
