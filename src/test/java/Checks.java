@@ -1,19 +1,23 @@
-/** Counts the answers that are not as due, and tells each of them. */
+import java.util.ArrayList;
+import java.util.List;
+import java.util.TreeSet;
+
+/** Runs tests by their names, counts the answers that are not as due, and tells each of them. */
 final class Checks {
+    private final List<String> names = new ArrayList<>();
+    private String running = "";
     private int wrong;
+
+    void test(String name, Runnable body) {
+        running = name;
+        names.add(name);
+        String thrown = nameOfThrown(body);
+        sameText("the test itself throws", thrown, "nothing");
+        running = "";
+    }
 
     void same(String what, long got, long due) {
         if (got != due) {
-            tell(what + " answered " + got + ", due is " + due);
-        }
-    }
-
-    void same(String what, boolean got, boolean due) {
-        same(what, got ? 1 : 0, due ? 1 : 0);
-    }
-
-    void sameMean(String what, double got, double due) {
-        if (Double.compare(got, due) != 0) {
             tell(what + " answered " + got + ", due is " + due);
         }
     }
@@ -22,13 +26,6 @@ final class Checks {
         if (!got.equals(due)) {
             tell(what + " is\n  " + got + "\ndue is\n  " + due);
         }
-    }
-
-    /** The call has to throw just this class, and to leave the garden as it was. */
-    void refuses(String what, ExamGarden garden, Class<? extends RuntimeException> due, Runnable call) {
-        long before = garden.digest();
-        sameText(what, nameOfThrown(call), due.getName());
-        same("digest() after " + what, garden.digest(), before);
     }
 
     static String nameOfThrown(Runnable call) {
@@ -40,8 +37,22 @@ final class Checks {
         }
     }
 
+    int testsNamed(String start) {
+        int count = 0;
+        for (String name : names) {
+            count += name.startsWith(start) ? 1 : 0;
+        }
+        return count;
+    }
+
+    /** Two tests of one name could not be told apart where one fails. */
+    void namesDiffer() {
+        same("how many names of tests differ", new TreeSet<>(names).size(), names.size());
+    }
+
     void finish() {
-        System.out.println(wrong == 0 ? "all answers are as due" : wrong + " answers are not as due");
+        String tests = names.isEmpty() ? "" : names.size() + " tests, ";
+        System.out.println(tests + (wrong == 0 ? "all answers are as due" : wrong + " answers are not as due"));
         if (wrong != 0) {
             System.exit(1);
         }
@@ -49,6 +60,6 @@ final class Checks {
 
     private void tell(String text) {
         wrong++;
-        System.out.println(text);
+        System.out.println(running.isEmpty() ? text : running + "\n  " + text);
     }
 }
