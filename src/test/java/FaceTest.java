@@ -54,6 +54,7 @@ public final class FaceTest {
         checks.sameText("the methods", methods().toString(), new TreeSet<>(List.of(FACE)).toString());
         checks.sameText("fields that are not private", openFields().toString(), "[]");
         checks.sameText("private methods that bear a public name", namesakes().toString(), "[]");
+        checks.sameText("the document's declarations not in the source", notInSource().toString(), "[]");
         checks.finish();
     }
 
@@ -99,6 +100,18 @@ public final class FaceTest {
         for (Field field : ExamGarden.class.getDeclaredFields()) {
             if (!Modifier.isPrivate(field.getModifiers())) {
                 found.add(field.getName());
+            }
+        }
+        return found;
+    }
+
+    /** The names of arguments and the order of exceptions too; a declaration may stand on two lines. */
+    private static List<String> notInSource() {
+        String source = String.join(" ", new Page(Page.SOURCE).lines).replaceAll(" +", " ");
+        List<String> found = new ArrayList<>();
+        for (String line : Page.face()) {
+            if (!source.contains(line.replace(";", " {"))) {
+                found.add(line);
             }
         }
         return found;

@@ -1,5 +1,3 @@
-import java.lang.reflect.InvocationTargetException;
-import java.lang.reflect.Method;
 import java.util.Arrays;
 
 /**
@@ -49,7 +47,8 @@ public final class RandomRunsTest {
             String[] words = drawCall().split(" ");
             Object[] arguments = drawArguments(words.length > 1 ? words[1] : "", model);
             String where = "run " + number + ", call " + calls + ": " + words[0] + Arrays.toString(arguments);
-            checks.sameText(where, ask(garden, words[0], arguments), ask(model, words[0], arguments));
+            checks.sameText(where, ByName.ask(garden, words[0], arguments),
+                    ByName.ask(model, words[0], arguments));
             checks.same("digest() after " + where, garden.digest(), model.digest());
         }
     }
@@ -108,24 +107,5 @@ public final class RandomRunsTest {
     private int draw(int below) {
         seed = seed * 6364136223846793005L + 1442695040888963407L;
         return (int) ((seed >>> 33) % below);
-    }
-
-    private static String ask(Object garden, String name, Object[] arguments) {
-        try {
-            return String.valueOf(methodOf(garden, name).invoke(garden, arguments));
-        } catch (InvocationTargetException thrown) {
-            return "throws " + thrown.getCause().getClass().getName();
-        } catch (IllegalAccessException thrown) {
-            throw new IllegalStateException(thrown);
-        }
-    }
-
-    private static Method methodOf(Object garden, String name) {
-        for (Method method : garden.getClass().getMethods()) {
-            if (method.getName().equals(name)) {
-                return method;
-            }
-        }
-        throw new IllegalStateException("no method " + name);
     }
 }
