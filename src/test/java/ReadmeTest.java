@@ -47,7 +47,7 @@ public final class ReadmeTest {
 
     private static String printedBy(String command, Path place) throws IOException, InterruptedException {
         Process process = new ProcessBuilder(command.split(" ")).directory(place.toFile())
-                .redirectErrorStream(true).start();
+                .redirectError(ProcessBuilder.Redirect.INHERIT).start();
         String printed = new String(process.getInputStream().readAllBytes(), StandardCharsets.UTF_8);
         int code = process.waitFor();
         return code == 0 ? printed : printed + command + " ended with " + code + "\n";
